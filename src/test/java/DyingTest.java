@@ -1,0 +1,92 @@
+/** Promises 24 to 27: lost, needed, again, doctor. */
+public final class DyingTest {
+    private static final Check CHECK = new Check("horses that die");
+
+    public static void main(String[] args) {
+        lost();
+        needed();
+        again();
+        doctor();
+        CHECK.finish();
+    }
+
+    private static void lost() {
+        HorsesOwnWays x = new HorsesOwnWays();
+        CHECK.due("lost(0, 6, 179) without HORSES", x.lost(0, 6, 179), 1000000000L);
+        CHECK.due("lost(0, 6, 180) without HORSES", x.lost(0, 6, 180), 0);
+        x.horse(0, 6, 10, 7);
+        CHECK.due("lost(0, 6, 9)", x.lost(0, 6, 9), 1000000000L);
+        CHECK.due("lost(0, 6, 10)", x.lost(0, 6, 10), 70000000L);
+        x.horse(0, 6, 20, 9);
+        CHECK.due("lost(0, 6, 10) of two", x.lost(0, 6, 10), 70000000L);
+        CHECK.due("lost(0, 6, 20) of two", x.lost(0, 6, 20), 6300000L);
+        CHECK.due("lost(0, 6, 9999)", x.lost(0, 6, 9999), 0);
+        CHECK.due("lost(3, 3, 0)", x.lost(3, 3, 0), 0);
+        for (int h = 2; h < 7; h++) {
+            x.horse(0, 6, 20, 3);
+        }
+        // 7, 9 and five times 3 of a hundred, cut at each: 1000000000, 70000000, 6300000, 189000, 5670, 170, 5, 0
+        CHECK.due("lost(0, 6, 20) of seven, cut", x.lost(0, 6, 20), 0);
+        CHECK.due("lost(0, 6, 10000)", x.lost(0, 6, 10000), HorsesOwnWays.NO);
+        CHECK.due("lost(0, 6, -1)", x.lost(0, 6, -1), HorsesOwnWays.NO);
+        CHECK.due("lost(0, 7, 5)", x.lost(0, 7, 5), HorsesOwnWays.NO);
+        CHECK.due("lost(-1, 0, 5)", x.lost(-1, 0, 5), HorsesOwnWays.NO);
+        HorsesOwnWays y = new HorsesOwnWays();
+        y.horse(0, 6, 10, 7);
+        Check.textOf(y, "out told;home 1;dies 500;");
+        y.force(1);
+        CHECK.due("lost where each dies", y.lost(0, 6, 100), 1000000000L);
+    }
+
+    private static void needed() {
+        HorsesOwnWays x = new HorsesOwnWays();
+        CHECK.due("needed(0, 6, 0) of none", x.needed(0, 6, 0), -1);
+        CHECK.due("needed(0, 6, 1) of none", x.needed(0, 6, 1), 180);
+        x.horse(0, 3, 10, 0);
+        x.horse(0, 36, 10, 0);
+        CHECK.due("needed(0, 6, 0): of like ones the first", x.needed(0, 6, 0), 0);
+        CHECK.due("needed(0, 6, 1)", x.needed(0, 6, 1), 100);
+        x.horse(0, 3, 50, 0);
+        CHECK.due("needed(0, 6, 0): the greater", x.needed(0, 6, 0), 1);
+        CHECK.due("needed(0, 3, 1)", x.needed(0, 3, 1), 50);
+        CHECK.due("needed(6, 0, 0): none", x.needed(6, 0, 0), -1);
+        CHECK.due("needed(6, 0, 1): SOON with all", x.needed(6, 0, 1), 180);
+        CHECK.due("needed(0, 6, 2)", x.needed(0, 6, 2), -7);
+        CHECK.due("needed(0, 6, -1)", x.needed(0, 6, -1), -7);
+        CHECK.due("needed(0, 7, 2), -5 first", x.needed(0, 7, 2), -5);
+        CHECK.due("needed(-1, 0, 0)", x.needed(-1, 0, 0), -5);
+    }
+
+    private static void again() {
+        HorsesOwnWays x = new HorsesOwnWays();
+        CHECK.due("again(0, 6) of none", x.again(0, 6), 0);
+        x.horse(4, 3, 10, 2);
+        x.horse(0, 36, 15, 0);
+        x.horse(0, 16, 100, 0);
+        CHECK.due("again(0, 6): 12 and 22, 15 and 15", x.again(0, 6), 34);
+        CHECK.due("again(3, 6)", x.again(3, 6), 30);
+        CHECK.due("again(6, 0)", x.again(6, 0), 0);
+        CHECK.due("again(3, 3)", x.again(3, 3), 0);
+        CHECK.due("again(0, 7)", x.again(0, 7), -5);
+        CHECK.due("again(-1, 0)", x.again(-1, 0), -5);
+    }
+
+    private static void doctor() {
+        HorsesOwnWays x = new HorsesOwnWays();
+        CHECK.due("doctor(0)", x.doctor(0), 90);
+        CHECK.due("doctor(1)", x.doctor(1), 3);
+        x.horse(0, 16, 10, 0);
+        // from 1: 0 30, 2 30, 3 60, 4 70, 5 40, 6 10
+        CHECK.due("doctor(0) then", x.doctor(0), 70);
+        CHECK.due("doctor(1) then", x.doctor(1), 1);
+        HorsesOwnWays y = new HorsesOwnWays();
+        for (int a = 0; a < 7; a++) {
+            for (int b = 0; b < a; b++) {
+                y.path(a, b, 50);
+            }
+        }
+        CHECK.due("doctor(1), all alike", y.doctor(1), 0);
+        CHECK.due("doctor(2)", y.doctor(2), -2);
+        CHECK.due("doctor(-1)", y.doctor(-1), -2);
+    }
+}
