@@ -104,6 +104,12 @@ public final class BetterTest {
         // 3 to 4 on foot 30, then on foot 3, by the HORSE 7
         CHECK.due("move(0, 1) then", x.move(0, 1), 33);
         CHECK.due("move(0, 0) then", x.move(0, 0), 0);
+        Check.textOf(x, "out (from=3)*20+5;home 1;dies 0;");
+        x.force(2);
+        x.path(4, 6, 60);
+        CHECK.due("move(0, 1) by the FROM it would have", x.move(0, 1), 25);
+        CHECK.due("move(0, 0) by the FROM it would have", x.move(0, 0), 3);
+        CHECK.due("told(0, 6) by the FROM it has", x.told(0, 6), 5);
     }
 
     private static void cut() {

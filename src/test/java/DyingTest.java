@@ -51,6 +51,12 @@ public final class DyingTest {
         CHECK.due("needed(0, 3, 1)", x.needed(0, 3, 1), 50);
         CHECK.due("needed(6, 0, 0): none", x.needed(6, 0, 0), -1);
         CHECK.due("needed(6, 0, 1): SOON with all", x.needed(6, 0, 1), 180);
+        for (int h = 3; h < 7; h++) {
+            x.horse(0, 65, 1, 0);
+        }
+        CHECK.due("needed(6, 5, 0) of seven", x.needed(6, 5, 0), -1);
+        CHECK.due("needed(0, 6, 0) of seven", x.needed(0, 6, 0), 1);
+        CHECK.due("again(0, 6) of seven", x.again(0, 6), 20);
         CHECK.due("needed(0, 6, 2)", x.needed(0, 6, 2), -7);
         CHECK.due("needed(0, 6, -1)", x.needed(0, 6, -1), -7);
         CHECK.due("needed(0, 7, 2), -5 first", x.needed(0, 7, 2), -5);
@@ -86,6 +92,20 @@ public final class DyingTest {
             }
         }
         CHECK.due("doctor(1), all alike", y.doctor(1), 0);
+        y.path(0, 3, 80);
+        y.path(0, 4, 70);
+        y.path(0, 5, 70);
+        y.path(0, 6, 70);
+        y.path(1, 2, 60);
+        // from 0: 80; from 1, 2: 60; from 3: 80 to 0; from 4, 5, 6: 70 to 0
+        CHECK.due("doctor(0)", y.doctor(0), 60);
+        CHECK.due("doctor(1)", y.doctor(1), 1);
+        y.path(1, 2, 999);
+        y.path(1, 3, 90);
+        y.path(2, 3, 90);
+        // from 1: 100 to 2 (by way of others), 90 to 3; from 3: 90; from 4, 5, 6: 70 to 0
+        CHECK.due("doctor(0) then", y.doctor(0), 70);
+        CHECK.due("doctor(1), PLACE 0 being farthest", y.doctor(1), 4);
         CHECK.due("doctor(2)", y.doctor(2), -2);
         CHECK.due("doctor(-1)", y.doctor(-1), -2);
     }

@@ -82,6 +82,14 @@ public final class LotsTest {
         CHECK.due("image() of two", x.image(), 2);
         x.horse(0, 1, 1, 0);
         CHECK.due("back() to the last one", x.back(), 2);
+        for (int h = 2; h < 7; h++) {
+            x.horse(0, 1, 1, 0);
+        }
+        x.stand(6, 77);
+        CHECK.due("image() of seven", x.image(), 7);
+        x.stand(6, 78);
+        CHECK.due("back() to seven", x.back(), 7);
+        CHECK.due("told(6, 5) then", x.told(6, 5), 77);
     }
 
     private static void back() {

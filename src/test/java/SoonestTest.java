@@ -29,6 +29,8 @@ public final class SoonestTest {
         CHECK.due("soonest(7, 3, 5), -5 first", x.soonest(7, 3, 5), -5);
         CHECK.due("soonest(0, -1, 0)", x.soonest(0, -1, 0), -5);
         CHECK.due("soonest(2, 2, 4)", x.soonest(2, 2, 4), -1);
+        x.horse(0, 40, 1, 0);
+        CHECK.due("soonest(4, 0, 4), to PLACE 0", x.soonest(4, 0, 4), 2);
     }
 
     /** Of like ways the first told counts: HORSES by numbers, then on foot; the PLACE left first. */
@@ -125,6 +127,28 @@ public final class SoonestTest {
         // The later is 100 whoever has HORSES 1, 2; both together are least if RIDE 1 has HORSE 2.
         CHECK.due("both: of like ones both together", y.both(0, 1, 1), 130);
         CHECK.due("both: of those the least as bits", y.both(0, 1, 2), 1);
+        laterCountsFirst();
+    }
+
+    /** RIDE 0: 100 on foot, 5 by the HORSE; RIDE 1: 120 on foot, 90 by the HORSE. */
+    private static void laterCountsFirst() {
+        HorsesOwnWays x = new HorsesOwnWays();
+        for (int a = 0; a < 7; a++) {
+            for (int b = 0; b < a; b++) {
+                x.path(a, b, 999);
+            }
+        }
+        x.path(0, 6, 100);
+        x.path(3, 4, 120);
+        x.ride(0, 6);
+        x.ride(3, 4);
+        x.horse(0, 6, 5, 0);
+        x.path(0, 3, 1);
+        x.path(6, 4, 84);
+        // 3 to 0 on foot 1, to 6 by the HORSE 5, to 4 on foot 84: 90
+        CHECK.due("both: the later first", x.both(0, 1, 0), 100);
+        CHECK.due("both: though together it is more", x.both(0, 1, 1), 190);
+        CHECK.due("both: the HORSE for RIDE 1", x.both(0, 1, 2), 0);
     }
 
     private static void all() {
@@ -136,6 +160,8 @@ public final class SoonestTest {
         CHECK.due("all() on foot", x.all(), 540);
         x.horse(0, 6, 10, 0);
         CHECK.due("all(): a HORSE for each by itself", x.all(), 200);
+        x.ride(5, 4);
+        CHECK.due("all() of four", x.all(), 230);
     }
 
     private static void worth() {

@@ -74,6 +74,10 @@ public final class TextTest {
         fault("out tol;home 2;dies 3;", 4);
         fault("out readyready;home 2;dies 3;", 4);
         fault("outtold;home 2;dies 3;", 0);
+        fault("outz 1;home 2;dies 3;", 0);
+        fault("xut 1;home 2;dies 3;", 0);
+        fault("ou 1;home 2;dies 3;", 0);
+        fault("out xold;home 2;dies 3;", 4);
         fault("out Told;home 2;dies 3;", 4);
         fault("out\t1;home 2;dies 3;", 3);
         fault("out 1/2;home 2;dies 3;", 5);
@@ -160,7 +164,9 @@ public final class TextTest {
         number("10+(4=5)", 10);
         number("10+(1+1=2)", 11);
         number("10+(7 and 8)", 11);
+        number("10+(1 and 1)", 11);
         number("10+(7 and 0)", 10);
+        number("10+(0 and 7)", 10);
         number("10+(0 or -1)", 11);
         number("10+(0 or 0)", 10);
         number("10+(not 0)", 11);

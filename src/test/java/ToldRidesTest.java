@@ -30,6 +30,9 @@ public final class ToldRidesTest {
         told(x, 0, -1, 145, 3, 71, 6, 14, 73);
         told(x, 4, -1, 5, 6, 16);
         told(x, 0, -1, 360, 0, 76, 70);
+        HorsesOwnWays y = new HorsesOwnWays();
+        y.horse(0, 30, 10, 0);
+        told(y, 3, -1, 10, 0, 0);
         Check.fill(x, 1, 0, 71, 6);
         CHECK.due("judge of bytes", x.judge(1, 0, 1), 110);
         Check.fill(x, 1, 1, 71, 6);
@@ -96,6 +99,9 @@ public final class ToldRidesTest {
         CHECK.due("whence(0)", x.whence(0), 4);
         x.cell(0, 6, 121);
         CHECK.due("whence(0), one other", x.whence(0), 0);
+        x.cell(0, 6, 120);
+        x.cell(0, 0, 61);
+        CHECK.due("whence(0), the first one other", x.whence(0), 0);
         Check.fill(x, 0, 1, 0, 30, 60, 90, 120, 150, 180);
         CHECK.due("whence(0) of shorts", x.whence(0), 1);
         Check.fill(x, 0, 0, 90, 60, 30, 0, 30, 60, 90);
