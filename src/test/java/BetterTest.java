@@ -8,6 +8,11 @@ public final class BetterTest {
         move();
         moveByLaw();
         cut();
+        teachAThird();
+        teachOneAtLeast();
+        teachOfSixAndSeven();
+        moveOfAll();
+        cutAtItsBounds();
         CHECK.finish();
     }
 
@@ -136,5 +141,106 @@ public final class BetterTest {
         CHECK.due("all() by THE LAW", y.all(), 100);
         CHECK.due("cut(0, 6, 190): far, too", y.cut(0, 6, 190), 50);
         CHECK.due("told(0, 6) then", y.told(0, 6), 100);
+    }
+
+    /** TOLD is a third of the WALK, cut, and 1 at least. */
+    private static void teachAThird() {
+        int[] walks = {1, 2, 3, 4, 5, 6, 7, 8, 9, 10, 29, 30, 31, 997, 998, 999};
+        int[] thirds = {1, 1, 1, 1, 1, 2, 2, 2, 3, 3, 9, 10, 10, 332, 332, 333};
+        for (int i = 0; i < walks.length; i++) {
+            HorsesOwnWays x = new HorsesOwnWays();
+            for (int a = 0; a < 7; a++) {
+                for (int b = 0; b < a; b++) {
+                    x.path(a, b, 999);
+                }
+            }
+            x.path(4, 2, walks[i]);
+            x.ride(4, 2);
+            CHECK.due("teach(1) of a WALK of " + walks[i], x.teach(1), thirds[i]);
+            CHECK.due("teach(0) of a WALK of " + walks[i], x.teach(0), walks[i] == 1 ? -1 : 42);
+        }
+    }
+
+    /** Of WALKS of 1 and 2 minutes the foal is TOLD 1, as THE LAW hears it, not 0. */
+    private static void teachOneAtLeast() {
+        for (int walk = 1; walk <= 5; walk++) {
+            HorsesOwnWays x = new HorsesOwnWays();
+            for (int a = 0; a < 7; a++) {
+                for (int b = 0; b < a; b++) {
+                    x.path(a, b, 999);
+                }
+            }
+            x.path(3, 4, walk);
+            x.ride(0, 1);
+            Check.textOf(x, "out 999*(not (from=3)*(to=4))+told*100;home 1;dies 0;");
+            x.force(1);
+            x.path(0, 3, 1);
+            x.path(1, 4, 1);
+            x.path(3, 4, walk);
+            // 0 to 3 and 4 to 1 on foot, 1 minute each; between them the WALK is sooner than 100 by the foal
+            CHECK.due("teach(0) of a WALK of " + walk, x.teach(0), -1);
+            CHECK.due("teach(1) of a WALK of " + walk, x.teach(1), 2 + walk);
+        }
+    }
+
+    /** The last one that may come is taught as HORSE 6; of 7 HORSES none is. */
+    private static void teachOfSixAndSeven() {
+        HorsesOwnWays x = new HorsesOwnWays();
+        x.ride(0, 6);
+        for (int h = 0; h < 6; h++) {
+            CHECK.due("teach(0) of " + h, x.teach(0), 6);
+            CHECK.due("teach(1) of " + h, x.teach(1), 60);
+            x.horse(0, 12, 900, 0);
+            x.stand(h, 900);
+        }
+        x.path(0, 6, 1);
+        CHECK.due("teach(0) of 6, none less", x.teach(0), -1);
+        CHECK.due("teach(1) of 6, RIDDEN now", x.teach(1), 1);
+        x.path(0, 6, 180);
+        x.image();
+        CHECK.due("a seventh", x.horse(0, 6, 61, 0), 6);
+        CHECK.due("teach(0) of 7", x.teach(0), -3);
+        CHECK.due("teach(1) of 7", x.teach(1), -3);
+        CHECK.due("teach(-1) of 7", x.teach(-1), -2);
+        CHECK.due("HORSE 6 then", x.told(6, 3), 61);
+        x.back();
+        CHECK.due("teach(0) of 6 again", x.teach(0), 6);
+        CHECK.due("count(0) then", x.count(0), 6);
+    }
+
+    /** A stable may be at any PLACE but its TO; without RIDES the first of them. */
+    private static void moveOfAll() {
+        for (int to = 0; to < 7; to++) {
+            HorsesOwnWays x = new HorsesOwnWays();
+            x.horse(0, 10 * ((to + 3) % 7) + to, 1, 0);
+            CHECK.due("move(0, 0) without RIDES, TO " + to, x.move(0, 0), to == 0 ? 1 : 0);
+            CHECK.due("move(0, 1) without RIDES, TO " + to, x.move(0, 1), 0);
+            for (int from = 0; from < 7; from++) {
+                HorsesOwnWays y = new HorsesOwnWays();
+                y.horse(0, 10 * ((to + 3) % 7) + to, 1, 0);
+                if (y.ride(from, to) == 0) {
+                    CHECK.due("move(0, 0) to where the RIDE is from", y.move(0, 0), from);
+                    CHECK.due("move(0, 1) to where the RIDE is from", y.move(0, 1), 1);
+                    CHECK.due("FROM then", y.told(0, 1), (to + 3) % 7);
+                }
+            }
+        }
+    }
+
+    private static void cutAtItsBounds() {
+        HorsesOwnWays x = new HorsesOwnWays();
+        CHECK.due("cut(0, 6, 1) without RIDES", x.cut(0, 6, 1), 0);
+        for (int r = 0; r < 4; r++) {
+            x.ride(0, 6);
+        }
+        CHECK.due("cut(0, 6, 1)", x.cut(0, 6, 1), 716);
+        CHECK.due("cut(0, 6, 179)", x.cut(0, 6, 179), 4);
+        CHECK.due("cut(0, 6, 180): as it is", x.cut(0, 6, 180), 0);
+        CHECK.due("cut(0, 6, 181): by way of others", x.cut(0, 6, 181), 0);
+        CHECK.due("cut(0, 6, 999): by way of others", x.cut(0, 6, 999), 0);
+        CHECK.due("all() then", x.all(), 720);
+        x.path(0, 6, 1);
+        CHECK.due("cut(6, 0, 2): below 0", x.cut(6, 0, 2), -4);
+        CHECK.due("cut(6, 0, 999): below 0", x.cut(6, 0, 999), -716);
     }
 }

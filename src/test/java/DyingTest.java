@@ -7,6 +7,11 @@ public final class DyingTest {
         needed();
         again();
         doctor();
+        lostIsCut();
+        lostAtItsBounds();
+        neededOfAll();
+        againBeyondTheBounds();
+        doctorAnywhere();
         CHECK.finish();
     }
 
@@ -108,5 +113,140 @@ public final class DyingTest {
         CHECK.due("doctor(1), PLACE 0 being farthest", y.doctor(1), 4);
         CHECK.due("doctor(2)", y.doctor(2), -2);
         CHECK.due("doctor(-1)", y.doctor(-1), -2);
+    }
+
+    /** Each HORSE's part is cut: 1 of a hundred dies, 1000000000, 10000000, 100000, 1000, 10, 9 (9.9), 8 (8.91). */
+    private static void lostIsCut() {
+        HorsesOwnWays x = new HorsesOwnWays();
+        for (int h = 0; h < 4; h++) {
+            x.horse(0, 6, 10, 1);
+        }
+        CHECK.due("lost of four", x.lost(0, 6, 10), 10);
+        x.horse(0, 32, 10, 1);
+        CHECK.due("lost, with one that lives or dies", x.lost(0, 6, 10), 9);
+        x.horse(0, 32, 10, 1);
+        CHECK.due("lost, with two that live or die", x.lost(0, 6, 10), 8);
+        x.horse(0, 6, 10, 1);
+        CHECK.due("lost, with a fifth behind them", x.lost(0, 6, 10), 0);
+        CHECK.due("lost below OUT: all sets, each cut", x.lost(0, 6, 9), wholeCut(new int[] {1, 1, 1, 1, 1, 1, 1}));
+        HorsesOwnWays y = States.made(States.FULL);
+        int[] dies = new int[7];
+        for (int h = 0; h < 7; h++) {
+            dies[h] = y.asks(2, h);
+        }
+        CHECK.due("lost(0, 6, 0) of all sets", y.lost(0, 6, 0), wholeCut(dies));
+    }
+
+    /** LIVES of all sets, each HORSE's part cut. */
+    private static long wholeCut(int[] dies) {
+        long[] parts = {1000000000L};
+        for (int d : dies) {
+            long[] next = new long[2 * parts.length];
+            for (int i = 0; i < parts.length; i++) {
+                next[2 * i] = parts[i] * (100 - d) / 100;
+                next[2 * i + 1] = parts[i] * d / 100;
+            }
+            parts = next;
+        }
+        long sum = 0;
+        for (long p : parts) {
+            sum += p;
+        }
+        return sum;
+    }
+
+    /** Above minutes: not at them; dies 0 and 100 of a hundred. */
+    private static void lostAtItsBounds() {
+        HorsesOwnWays x = new HorsesOwnWays();
+        for (int a = 0; a < 7; a++) {
+            for (int b = 0; b < a; b++) {
+                x.path(a, b, 999);
+            }
+        }
+        CHECK.due("lost(0, 6, 998)", x.lost(0, 6, 998), 1000000000L);
+        CHECK.due("lost(0, 6, 999)", x.lost(0, 6, 999), 0);
+        CHECK.due("lost(0, 6, 1000)", x.lost(0, 6, 1000), 0);
+        CHECK.due("lost(0, 6, 0)", x.lost(0, 6, 0), 1000000000L);
+        CHECK.due("lost(0, 6, 9999)", x.lost(0, 6, 9999), 0);
+        for (int p = 0; p < 7; p++) {
+            CHECK.due("lost(" + p + ", " + p + ", 0)", x.lost(p, p, 0), 0);
+        }
+        Check.textOf(x, "out told;home 1;dies 100;");
+        x.horse(0, 6, 10, 0);
+        CHECK.due("lost where none ever dies", x.lost(0, 6, 10), 0);
+        CHECK.due("lost one minute ahead", x.lost(0, 6, 9), 1000000000L);
+        x.force(1);
+        CHECK.due("lost where each always dies", x.lost(0, 6, 998), 1000000000L);
+        CHECK.due("lost where each always dies, on foot", x.lost(0, 6, 999), 0);
+    }
+
+    private static void neededOfAll() {
+        HorsesOwnWays x = new HorsesOwnWays();
+        for (int h = 0; h < 6; h++) {
+            x.horse(0, 10 * h + h + 1, 1, 0);
+        }
+        CHECK.due("needed(0, 6, 0) of six in a row: like ones", x.needed(0, 6, 0), 0);
+        CHECK.due("needed(0, 6, 1)", x.needed(0, 6, 1), 35);
+        x.path(5, 6, 32);
+        CHECK.due("needed(0, 6, 0): the last one", x.needed(0, 6, 0), 5);
+        CHECK.due("needed(0, 6, 1)", x.needed(0, 6, 1), 37);
+        x.horse(0, 60, 1, 0);
+        CHECK.due("needed(6, 0, 0): the seventh", x.needed(6, 0, 0), 6);
+        CHECK.due("needed(6, 0, 1)", x.needed(6, 0, 1), 180);
+        CHECK.due("needed(4, 4, 0)", x.needed(4, 4, 0), -1);
+        CHECK.due("needed(4, 4, 1)", x.needed(4, 4, 1), 0);
+        HorsesOwnWays y = new HorsesOwnWays();
+        y.horse(0, 6, 180, 0);
+        CHECK.due("needed of one as soon as on foot", y.needed(0, 6, 0), -1);
+        CHECK.due("SOON then", y.needed(0, 6, 1), 180);
+        HorsesOwnWays z = new HorsesOwnWays();
+        z.horse(0, 6, 179, 0);
+        CHECK.due("needed of one a minute sooner", z.needed(0, 6, 0), 0);
+        CHECK.due("SOON then", z.needed(0, 6, 1), 180);
+    }
+
+    /** OUT and HOME of a HUNGRY may be 1008 and 2007; READY and waiting don't count. */
+    private static void againBeyondTheBounds() {
+        HorsesOwnWays x = new HorsesOwnWays();
+        x.horse(4, 6, 170, 9);
+        CHECK.due("again(0, 6) of a HUNGRY", x.again(0, 6), 179 + 349);
+        Check.textOf(x, "out 1;home 9999;dies 0;");
+        x.force(1);
+        x.stand(0, 170);
+        CHECK.due("soonest(0, 6, 0): READY at 170, OUT 10", x.soonest(0, 6, 0), 180);
+        CHECK.due("again(0, 6) of a long HOME", x.again(0, 6), 10 + 2007);
+        x.stand(0, 171);
+        CHECK.due("again(0, 6) on foot", x.again(0, 6), 0);
+        HorsesOwnWays y = new HorsesOwnWays();
+        for (int h = 0; h < 6; h++) {
+            y.horse(0, 10 * h + h + 1, 1 + h, 0);
+        }
+        y.horse(0, 60, 7, 0);
+        CHECK.due("again(0, 6): the last one of THE WAY", y.again(0, 6), 12);
+        CHECK.due("again(6, 5): the first one of THE WAY", y.again(6, 5), 14);
+        for (int p = 0; p < 7; p++) {
+            CHECK.due("again(" + p + ", " + p + ")", y.again(p, p), 0);
+        }
+    }
+
+    private static void doctorAnywhere() {
+        for (int best = 0; best < 7; best++) {
+            HorsesOwnWays x = new HorsesOwnWays();
+            for (int a = 0; a < 7; a++) {
+                for (int b = 0; b < a; b++) {
+                    x.path(a, b, a == best || b == best ? 10 : 50);
+                }
+            }
+            CHECK.due("doctor(0) at " + best, x.doctor(0), 10);
+            CHECK.due("doctor(1) at " + best, x.doctor(1), best);
+        }
+        HorsesOwnWays y = new HorsesOwnWays();
+        for (int a = 0; a < 7; a++) {
+            for (int b = 0; b < a; b++) {
+                y.path(a, b, 999);
+            }
+        }
+        CHECK.due("doctor(0), all as far as can be", y.doctor(0), 999);
+        CHECK.due("doctor(1), all as far as can be", y.doctor(1), 0);
     }
 }

@@ -9,6 +9,11 @@ public final class HostTest {
         horsesBy();
         horsesByRefusals();
         taken();
+        lowestBits();
+        allZeroAnew();
+        eachCopy();
+        horsesByTheirNumbers();
+        takenOfAll();
         CHECK.finish();
     }
 
@@ -166,5 +171,143 @@ public final class HostTest {
         CHECK.due("taken(-1, 0)", x.taken(-1, 0), -12);
         CHECK.due("taken(-1, 7): BAD first", x.taken(-1, 7), -2);
         CHECK.due("taken(0, -1)", x.taken(0, -1), -2);
+    }
+
+    /** What a number of a SHEET is, as far as a HORSE can have it as TOLD; 0: it can't. */
+    private static int numberBy(int sort, int v) {
+        HorsesOwnWays x = new HorsesOwnWays();
+        Check.fill(x, 0, sort, 0, 12, v, 0);
+        return x.horsesBy(0, sort, 0, 1) == 1 ? x.told(0, 3) : 0;
+    }
+
+    /** Bytes keep their lowest 8, shorts their lowest 16 bits, ints all of them. */
+    private static void lowestBits() {
+        int[] turns = {0, 1, 2, 3, 100, 8388607, -1, -2, -8388608};
+        for (int low = 0; low < 256; low++) {
+            for (int turn : turns) {
+                int due = low < 128 ? low : 0;
+                CHECK.due("a byte of " + (256 * turn + low), numberBy(0, 256 * turn + low), due);
+            }
+        }
+        for (int low : new int[] {0, 1, 127, 128, 255, 256, 998, 999, 1000, 32767, 32768, 65535}) {
+            for (int turn : new int[] {0, 1, 2, 32767, -1, -32768}) {
+                int due = low <= 999 ? low : 0;
+                CHECK.due("a short of " + (65536 * turn + low), numberBy(1, 65536 * turn + low), due);
+                CHECK.due("an int of " + (65536 * turn + low), numberBy(2, 65536 * turn + low), turn == 0 ? due : 0);
+            }
+        }
+    }
+
+    /** A row is all 0 whatever stood there, and longer ones, too. */
+    private static void allZeroAnew() {
+        for (int sort = 0; sort < 3; sort++) {
+            HorsesOwnWays x = new HorsesOwnWays();
+            int[] ones = new int[40];
+            java.util.Arrays.fill(ones, 71);
+            Check.fill(x, 0, 2, ones);
+            CHECK.due("sheet of 7", x.sheet(0, sort, 7), 1);
+            CHECK.due("judge of 0 first", x.judge(0, 0, 0), 0);
+            for (int i = 0; i < 7; i++) {
+                for (int p = 0; p < i; p++) {
+                    x.cell(0, p, p % 2 == 0 ? 71 : 70);
+                }
+                CHECK.due("judge of 0 at " + i, x.judge(0, 0, 0), i);
+            }
+            Check.fill(x, 0, 2, ones);
+            x.sheet(0, sort, 3);
+            x.sheet(0, sort, 40);
+            for (int i = 0; i < 40; i++) {
+                CHECK.due("judge of 0 at " + i + " of 40", x.judge(0, 0, 0), i);
+                x.cell(0, i, i % 2 == 0 ? 71 : 70);
+            }
+            x.sheet(0, -1, 40);
+            CHECK.due("a missing one", x.judge(0, 0, 0), -11);
+        }
+    }
+
+    /** Each i, j, n of a SHEET of 7 upon itself: the numbers come as they were ahead of it. */
+    private static void eachCopy() {
+        for (int i = -1; i <= 8; i++) {
+            for (int j = -1; j <= 8; j++) {
+                for (int n = -1; n <= 8; n++) {
+                    HorsesOwnWays x = new HorsesOwnWays();
+                    int[] numbers = {0, 61, 62, 63, 64, 65, 66};
+                    Check.fill(x, 0, 2, numbers);
+                    boolean isInside = i >= 0 && j >= 0 && n >= 0 && i + n <= 7 && j + n <= 7;
+                    CHECK.due("copy(0, " + i + ", 0, " + j + ", " + n + ")", x.copy(0, i, 0, j, n), isInside ? n : -12);
+                    int[] then = numbers.clone();
+                    for (int k = 0; isInside && k < n; k++) {
+                        then[j + k] = numbers[i + k];
+                    }
+                    CHECK.due("whether it is then as it should", isThen(x, then) ? 1 : 0, 1);
+                }
+            }
+        }
+    }
+
+    /** Whether the numbers of SHEET 0, one by one TOLD of a HORSE, are these; 0: none can have it. */
+    private static boolean isThen(HorsesOwnWays x, int[] then) {
+        boolean areAlike = true;
+        x.image();
+        for (int i = 0; i < 7; i++) {
+            Check.fill(x, 1, 2, 0, 12, 0, 0);
+            x.copy(0, i, 1, 2, 1);
+            int came = x.horsesBy(1, 2, 0, 1);
+            int told = came == 1 ? x.told(0, 3) : 0;
+            areAlike &= told == then[i];
+            x.back();
+        }
+        return areAlike;
+    }
+
+    /** n is 0 .. 7, four by four; what is refused is left out, and those behind it come. */
+    private static void horsesByTheirNumbers() {
+        int[] rows = {0, 1, 1, 0, 6, 1, 1, 0, 1, 12, 999, 9, 0, 11, 1, 0, 2, 23, 5, 5, 0, 12, 0, 0, 5, 65, 7, 8, 0, 12, 1, 10,
+            3, 60, 9, 3, 4, 6, 10, 1};
+        int[] came = {0, 1, 1, 2, 2, 3, 3, 4};
+        for (int n = 0; n <= 7; n++) {
+            HorsesOwnWays x = new HorsesOwnWays();
+            Check.fill(x, 3, 2, rows);
+            CHECK.due("horsesBy(3, 2, 0, " + n + ")", x.horsesBy(3, 2, 0, n), came[n]);
+            CHECK.due("HORSES then", x.count(0), came[n]);
+        }
+        HorsesOwnWays y = new HorsesOwnWays();
+        Check.fill(y, 3, 2, rows);
+        CHECK.due("horsesBy(3, 2, 12, 7)", y.horsesBy(3, 2, 12, 7), 4);
+        CHECK.due("KIND of the last one", y.told(3, 0), 4);
+        CHECK.due("horsesBy(3, 2, 13, 7): outside at last", y.horsesBy(3, 2, 13, 7), -12);
+        CHECK.due("horsesBy(3, 2, 16, 7): one outside", y.horsesBy(3, 2, 16, 7), -12);
+        CHECK.due("those ahead came, as many as have room", y.count(0), 7);
+        CHECK.due("horsesBy(3, 2, 36, 1): none has room", y.horsesBy(3, 2, 36, 1), 0);
+        HorsesOwnWays z = new HorsesOwnWays();
+        Check.fill(z, 3, 2, rows);
+        CHECK.due("horsesBy(3, 2, 37, 1): three of four", z.horsesBy(3, 2, 37, 1), -12);
+        CHECK.due("horsesBy(3, 2, 40, 1): none of four", z.horsesBy(3, 2, 40, 1), -12);
+        CHECK.due("HORSES then", z.count(0), 0);
+        CHECK.due("horsesBy(3, 2, 36, 2): the second outside", z.horsesBy(3, 2, 36, 2), -12);
+        CHECK.due("the first came", z.count(0), 1);
+        CHECK.due("its KIND", z.told(0, 0), 4);
+        CHECK.due("horsesBy(3, 2, 36, 1)", z.horsesBy(3, 2, 36, 1), 1);
+    }
+
+    /** Places 0 .. 3, 4 .. 10, of which something lies at those alone that came. */
+    private static void takenOfAll() {
+        HorsesOwnWays x = new HorsesOwnWays();
+        for (int r = 0; r <= 4; r++) {
+            for (int i = 0; i < 4; i++) {
+                CHECK.due("taken(" + i + ", 6) of " + r, x.taken(i, 6), i < r ? 10 * i + 6 : -11);
+                CHECK.due("taken(" + i + ", 0) of " + r, x.taken(i, 0), i < r ? -13 : -11);
+            }
+            x.ride(r, 6);
+        }
+        for (int h = 0; h <= 7; h++) {
+            for (int i = 0; i < 7; i++) {
+                CHECK.due("taken(" + (4 + i) + ", 0) of " + h, x.taken(4 + i, 0), i < h ? i : -11);
+                CHECK.due("taken(" + (4 + i) + ", 6) of " + h, x.taken(4 + i, 6), i < h ? -13 : -11);
+            }
+            CHECK.due("taken(11, 0) of " + h, x.taken(11, 0), -12);
+            CHECK.due("taken(-1, 6) of " + h, x.taken(-1, 6), -12);
+            x.horse(h % 6, 1, 1, 0);
+        }
     }
 }

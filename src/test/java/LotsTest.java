@@ -1,3 +1,5 @@
+import java.math.BigInteger;
+
 /** Promises 33 to 36: drawn, mean, image, back. */
 public final class LotsTest {
     private static final Check CHECK = new Check("years by lot");
@@ -5,8 +7,15 @@ public final class LotsTest {
     public static void main(String[] args) {
         drawn();
         mean();
+        lots();
+        lotsWrap();
+        meansOfAll();
+        lowestTerms();
         image();
         back();
+        backToNone();
+        backToAll();
+        backBringsNothingElse();
         CHECK.finish();
     }
 
@@ -131,5 +140,157 @@ public final class LotsTest {
         x.stand(0, 66);
         CHECK.due("back() once more", x.back(), 1);
         CHECK.due("told(0, 5) once more", x.told(0, 5), 33);
+    }
+
+    /** LOT number h (from 0) of a SEED: (SEED and 1) times 48271 to the power of h and 1. */
+    private static int lot(int seed, int h) {
+        BigInteger modulus = BigInteger.valueOf(2147483647L);
+        return BigInteger.valueOf(48271).modPow(BigInteger.valueOf(h + 1), modulus)
+                .multiply(BigInteger.valueOf(seed + 1L)).mod(modulus).mod(BigInteger.valueOf(100)).intValue();
+    }
+
+    private static HorsesOwnWays dyingAt(int... dies) {
+        HorsesOwnWays x = new HorsesOwnWays();
+        Check.textOf(x, "out from+2;home 1;dies told-1;");
+        x.force(1);
+        for (int h = 0; h < dies.length; h++) {
+            x.horse(0, 10 * h + (h + 1) % 7, dies[h] + 1, 0);
+        }
+        return x;
+    }
+
+    /** A LOT for each HORSE, by numbers: it lives at its LOT, and dies one above it. */
+    private static void lots() {
+        for (int seed : new int[] {0, 1, 2, 99, 4999, 44487, 44488, 50000, 99998, 99999}) {
+            for (int h = 0; h < 7; h++) {
+                int[] dies = new int[7];
+                for (int i = 0; i < 7; i++) {
+                    dies[i] = lot(seed, i) + (i == h ? 1 : 0);
+                }
+                CHECK.due("drawn(" + seed + "), HORSE " + h + " above its LOT", dyingAt(dies).drawn(seed), 127 & ~(1 << h));
+                dies[h]--;
+                CHECK.due("drawn(" + seed + "), all at their LOTS", dyingAt(dies).drawn(seed), 127);
+            }
+        }
+        CHECK.due("drawn(0) where none ever dies", dyingAt(0, 0, 0, 0, 0, 0, 0).drawn(0), 127);
+        CHECK.due("drawn(0) where each always dies", dyingAt(100, 100, 100, 100, 100, 100, 100).drawn(0), 0);
+        CHECK.due("drawn(99999) where some do", dyingAt(100, 0, 100, 0, 100, 0, 100).drawn(99999), 42);
+    }
+
+    /** 44488 times 48271 is 2147480248, 44489 times 48271 passes the modulus and is 44872. */
+    private static void lotsWrap() {
+        CHECK.due("drawn(44487) at 48", dyingAt(48).drawn(44487), 1);
+        CHECK.due("drawn(44487) at 49", dyingAt(49).drawn(44487), 0);
+        CHECK.due("drawn(44488) at 72", dyingAt(72).drawn(44488), 1);
+        CHECK.due("drawn(44488) at 73", dyingAt(73).drawn(44488), 0);
+    }
+
+    /** 1 .. 30 seeds from 99999 on pass 99999; from 0 on they don't. */
+    private static void meansOfAll() {
+        for (int seed : new int[] {0, 44480, 99970, 99999}) {
+            for (int seeds = 1; seeds <= 30; seeds++) {
+                HorsesOwnWays x = dyingAt(50);
+                int sum = 0;
+                for (int i = 0; i < seeds; i++) {
+                    sum += lot(seed + i, 0) >= 50 ? 2 : 30;
+                }
+                int common = BigInteger.valueOf(sum).gcd(BigInteger.valueOf(seeds)).intValue();
+                CHECK.due("mean(0, 1, " + seed + ", " + seeds + ", 0)", x.mean(0, 1, seed, seeds, 0), sum / common);
+                CHECK.due("mean(0, 1, " + seed + ", " + seeds + ", 1)", x.mean(0, 1, seed, seeds, 1), seeds / common);
+            }
+        }
+    }
+
+    private static void lowestTerms() {
+        HorsesOwnWays x = new HorsesOwnWays();
+        for (int seeds = 1; seeds <= 30; seeds++) {
+            CHECK.due("mean of 0, above the line", x.mean(4, 4, 5, seeds, 0), 0);
+            CHECK.due("mean of 0, below the line", x.mean(4, 4, 5, seeds, 1), 1);
+            CHECK.due("mean of 180, above the line", x.mean(0, 6, 5, seeds, 0), 180);
+            CHECK.due("mean of 180, below the line", x.mean(0, 6, 5, seeds, 1), 1);
+        }
+    }
+
+    private static void backToNone() {
+        HorsesOwnWays x = new HorsesOwnWays();
+        CHECK.due("image() of none", x.image(), 0);
+        CHECK.due("back() at once", x.back(), 0);
+        for (int h = 0; h < 7; h++) {
+            x.horse(h % 6, 10 * h + (h + 1) % 7, 9, 9);
+            x.stand(h, 5);
+        }
+        for (int r = 0; r < 4; r++) {
+            x.ride(r, 6);
+        }
+        CHECK.due("back() from all", x.back(), 0);
+        CHECK.due("HORSES then", x.count(0), 0);
+        CHECK.due("RIDES then", x.count(1), 0);
+        CHECK.due("at(0) then", x.at(0), 0);
+        CHECK.due("all() then", x.all(), 0);
+        CHECK.due("wet(1, 0) then", x.wet(1, 0), -2);
+        CHECK.due("soonest(0, 1, 1) then", x.soonest(0, 1, 1), 0);
+        CHECK.due("taken(4, 0) then", x.taken(4, 0), -11);
+        CHECK.due("taken(0, 6) then", x.taken(0, 6), -11);
+        CHECK.due("horse then", x.horse(0, 65, 4, 3), 0);
+        CHECK.due("its READY", x.told(0, 5), 0);
+        CHECK.due("ride then", x.ride(5, 4), 0);
+        CHECK.due("rideTold(0, 0) then", x.rideTold(0, 0), 5);
+        for (int h = 1; h < 7; h++) {
+            CHECK.due("as many as ever", x.horse(0, 65, 4, 3), h);
+        }
+        CHECK.due("and no more", x.horse(0, 65, 4, 3), -4);
+        CHECK.due("teach(0) of 7 HORSES", x.teach(0), -3);
+        CHECK.due("back() again", x.back(), 0);
+        CHECK.due("teach(0) then", x.teach(0), -1);
+    }
+
+    private static void backToAll() {
+        HorsesOwnWays x = States.made(States.FULL);
+        CHECK.due("image() of 7", x.image(), 7);
+        for (int h = 0; h < 7; h++) {
+            x.stand(h, 900 + h);
+        }
+        for (int a = 0; a < 7; a++) {
+            for (int b = 0; b < a; b++) {
+                x.path(b, a, 1);
+            }
+        }
+        x.force(3);
+        CHECK.due("back() to 7", x.back(), 7);
+        CHECK.due("RIDES then", x.count(1), 4);
+        CHECK.due("THE LAW then", x.count(3), 5);
+        HorsesOwnWays y = States.made(States.FULL);
+        for (int h = 0; h < 7; h++) {
+            for (int what = 0; what < 8; what++) {
+                CHECK.due("told(" + h + ", " + what + ") then", x.told(h, what), y.told(h, what));
+            }
+            for (int p = 0; p < 7; p++) {
+                CHECK.due("pathTold(" + h + ", " + p + ") then", x.pathTold(h, p), y.pathTold(h, p));
+            }
+        }
+    }
+
+    /** TEXTS, THE TAPE and SHEETS are not kept: they stay as they are. */
+    private static void backBringsNothingElse() {
+        HorsesOwnWays x = new HorsesOwnWays();
+        x.horse(0, 6, 20, 3);
+        Check.feedAll(x, "out ");
+        Check.fill(x, 1, 2, 5, 5);
+        x.image();
+        Check.feedAll(x, "6;home 7;dies 8;");
+        CHECK.due("back() ahead of text", x.back(), 1);
+        CHECK.due("bytes then", x.count(4), 20);
+        CHECK.due("text() then", x.text(), 1);
+        x.force(1);
+        x.sheet(1, -1, 0);
+        x.film(0, 3);
+        CHECK.due("back() behind text", x.back(), 1);
+        CHECK.due("TEXTS then", x.count(2), 2);
+        CHECK.due("THE LAW then", x.count(3), 0);
+        CHECK.due("told(0, 6) then", x.told(0, 6), 20);
+        CHECK.due("SHEET 1 then", x.cell(1, 0, 1), -11);
+        CHECK.due("SHEET 0 then", x.whence(0), 8);
+        CHECK.due("force(1) then", x.force(1), 0);
+        CHECK.due("told(0, 6) by it", x.told(0, 6), 6);
     }
 }
