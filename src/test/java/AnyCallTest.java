@@ -8,6 +8,8 @@ public final class AnyCallTest {
 
     public static void main(String[] args) {
         askingChangesNothing();
+        askingLeavesAll();
+        changingChangesWhatItTells();
         sameCallsSameAnswers();
         callsMakeNoObjects();
         constants();
@@ -66,6 +68,44 @@ public final class AnyCallTest {
                         CHECK.due("whether the state is as before " + name + Arrays.toString(v),
                                 stateOf(x).equals(before) ? 1 : 0, 1);
                     }
+                }
+            }
+        }
+    }
+
+    /** Each call that asks, taken or refused: SHEETS, THE TAPE and THE IMAGE, too, are as before. */
+    private static void askingLeavesAll() {
+        Calls calls = new Calls(77);
+        for (int state = States.EMPTY; state <= States.FULL; state++) {
+            for (int aspect = 0; aspect < States.ASPECTS; aspect++) {
+                List<Long> before = States.told(States.made(state), aspect);
+                for (String name : calls.names) {
+                    for (int i = 0; i < 12 && Calls.isAsking(name); i++) {
+                        int[] v = calls.arguments(name);
+                        HorsesOwnWays x = States.made(state);
+                        Calls.call(x, name, v);
+                        Calls.call(x, name, v);
+                        CHECK.due("whether all is as before " + name + Arrays.toString(v),
+                                States.told(x, aspect).equals(before) ? 1 : 0, 1);
+                    }
+                }
+            }
+        }
+    }
+
+    /** film, copy, cell and sheet change the SHEET that they are told to, and no other one. */
+    private static void changingChangesWhatItTells() {
+        String[] names = {"film", "sheet", "cell", "copy"};
+        int[][][] rows = {{{1, 5}, {3, 0}}, {{1, 2, 9}, {0, -1, 0}}, {{1, 3, 777}, {2, 0, 9}}, {{0, 0, 0, 1, 5}, {1, 4, 1, 0, 4}}};
+        for (int n = 0; n < names.length; n++) {
+            for (int[] row : rows[n]) {
+                int changed = names[n].equals("copy") ? row[2] : row[0];
+                for (int s = 0; s < 4; s++) {
+                    HorsesOwnWays x = States.made(States.SOME);
+                    Calls.call(x, names[n], row);
+                    boolean isAsBefore = States.told(x, 1 + s).equals(States.told(States.made(States.SOME), 1 + s));
+                    CHECK.due("whether SHEET " + s + " is as before " + names[n] + Arrays.toString(row),
+                            isAsBefore ? 1 : 0, s == changed ? 0 : 1);
                 }
             }
         }

@@ -33,6 +33,8 @@ public final class RefusedTest {
         copies();
         horsesBySheets();
         takenThings();
+        faultChangesTheTapeAlone();
+        outsideBringsWhatStoodAhead();
         CHECK.finish();
     }
 
@@ -278,5 +280,39 @@ public final class RefusedTest {
         refused(S, "taken", -11, of(3, 6), of(3, 0), of(9, 0), of(10, 6));
         refused(S, "taken", -13, of(0, 0), of(2, 5), of(4, 6), of(8, 6), of(4, 1), of(5, 2), of(6, 1), of(7, 1), of(8, 3));
         refused(F, "taken", -13, of(3, 0), of(10, 6), of(10, 1));
+    }
+
+    /** Where it is told: a FAULT empties THE TAPE; fed anew, all is as before. */
+    private static void faultChangesTheTapeAlone() {
+        for (int aspect = 0; aspect < States.ASPECTS; aspect++) {
+            for (String spoilt : new String[] {"?", ";", " out", "((((((", "or"}) {
+                HorsesOwnWays x = States.made(S);
+                Check.feedAll(x, spoilt);
+                CHECK.due("text() behind which stands " + spoilt, x.text(), spoilt.equals(" out") ? -121 : -120);
+                CHECK.due("bytes then", x.count(4), 0);
+                CHECK.due("TEXTS then", x.count(2), 3);
+                CHECK.due("THE LAW then", x.count(3), 2);
+                Check.feedAll(x, "out 7;home 8;dies 9;");
+                CHECK.due("whether all is as before", States.told(x, aspect).equals(BEFORE.get(S).get(aspect)) ? 1 : 0, 1);
+            }
+        }
+    }
+
+    /** Where it is told: of HORSES by a SHEET those that stood ahead of the place outside came, and nothing else. */
+    private static void outsideBringsWhatStoodAhead() {
+        for (int aspect = 0; aspect < States.ASPECTS; aspect++) {
+            for (int ahead = 0; ahead <= 2; ahead++) {
+                HorsesOwnWays x = States.made(S);
+                CHECK.due("horsesBy with " + ahead + " ahead", x.horsesBy(1, 1, 12 - 4 * ahead, 7), -12);
+                HorsesOwnWays y = States.made(S);
+                int[][] rows = {{1, 34, 7, 8}, {5, 61, 90, 6}};
+                for (int i = 2 - ahead; i < 2; i++) {
+                    y.horse(rows[i][0], rows[i][1], rows[i][2], rows[i][3]);
+                }
+                CHECK.due("HORSES then", x.count(0), 5 + ahead);
+                CHECK.due("whether all is as if they came alone",
+                        States.told(x, aspect).equals(States.told(y, aspect)) ? 1 : 0, 1);
+            }
+        }
     }
 }
