@@ -16,6 +16,8 @@ public final class TextEdgesTest {
         wrappingLikeJava();
         boundsBehindWrapping();
         faultEmptiesTheTapeAlone();
+        faultLeavesNothingOfItsText();
+        behindTheLastSign();
         fullTextsKeepTheTape();
         eachText();
         mostNumbersWait();
@@ -265,6 +267,35 @@ public final class TextEdgesTest {
         CHECK.due("its out", x.asks(0, 0), 28);
         CHECK.due("its home", x.asks(1, 0), 29);
         CHECK.due("its dies", x.asks(2, 0), 30);
+    }
+
+    /** A TEXT behind one with a FAULT says what it says by itself, however long the other one was. */
+    private static void faultLeavesNothingOfItsText() {
+        String[] spoilt = {"out 1;home 1;dies -1", "out 1;home 1;dies not 1", "out 1;home -1;dies 1?", "out - - 1;", "out -",
+            "out 5*(-3+not 4", "out 1;home 2;dies not - 3;;", "out 1;home 1;dies 1-2*-3"};
+        for (String other : spoilt) {
+            HorsesOwnWays x = new HorsesOwnWays();
+            x.horse(0, 1, 5, 5);
+            CHECK.due("whether \"" + other + "\" has a FAULT", Check.textOf(x, other) <= -100 ? 1 : 0, 1);
+            CHECK.due("a TEXT behind it", Check.textOf(x, "out 30;home 40;dies 50;"), 1);
+            x.force(1);
+            for (int part = 0; part < 3; part++) {
+                CHECK.due("part " + part + " behind \"" + other + "\"", x.asks(part, 0), 30 + 10 * part);
+            }
+        }
+    }
+
+    /** Behind the last ; nothing can stand but blanks: no TOKEN, and nothing that is none. */
+    private static void behindTheLastSign() {
+        String text = "out 1;home 1;dies 1;";
+        for (String more : new String[] {"?", "x", "tolds", "12345", "1", "told", "out", ";", ")", "(", "-", "not", "=", "A", "\t"}) {
+            read(text + more, -120);
+            read(text + " " + more, -121);
+            read(text + more + " ", -120);
+        }
+        for (int b = 0; b < 256; b++) {
+            read(text + (char) b, b == 32 || b == 10 ? 1 : -120);
+        }
     }
 
     private static void fullTextsKeepTheTape() {
